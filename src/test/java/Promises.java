@@ -642,7 +642,10 @@ public final class Promises {
         due(23, "k", x.lands(7, -1), BAD);
         due(23, "k", x.lands(7, LEAST), BAD);
 
+        due(24, "unlike(1)", x.unlike(1), 1);
+        due(24, "unlike(2)", x.unlike(2), 1);
         due(24, "unlike(3)", x.unlike(3), 2);
+        due(24, "unlike(4)", x.unlike(4), 4);
         due(24, "unlike(5)", x.unlike(5), 14);
         due(24, "n", x.unlike(0), BAD);
         due(24, "n", x.unlike(6), BAD);
@@ -791,6 +794,8 @@ public final class Promises {
         dueSettled(x, "way", x.kind(9), x.way(1, 0, 1));
         dueSettled(x, "way NONE", x.kind(9), x.way(1, 0, 9));
         dueSettled(x, "way NONE", x.kind(9), x.way(1, 0, -1));
+        x.land(4, 0, 0);
+        dueSettled(x, "way NONE, as one is back early", x.kind(9), x.way(4, 0, 2));
         dueSettled(x, "stamp", x.kind(9), x.stamp(2, 0));
         dueSettled(x, "clash NONE", x.kind(9), x.clash(2, 0));
         dueSettled(x, "nthFold", x.kind(9), x.nthFold(3, 3, 3));
