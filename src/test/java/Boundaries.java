@@ -161,6 +161,12 @@ public final class Boundaries {
     // ---- terms
 
     private static void terms() {
+        test(TERMS, "NONE = -1000000, BAD = -1000001, STATE = -1000002, FULL = -1000003", () -> {
+            due("NONE", RiverRoad.NONE, NONE);
+            due("BAD", RiverRoad.BAD, BAD);
+            due("STATE", RiverRoad.STATE, -1000002);
+            due("FULL", RiverRoad.FULL, FULL);
+        });
         test(TERMS, "An object is used for at most 512 calls after it has been made", () -> {
             row(0, "+++-+---+-".repeat(4));
             x.land(1, 0, 0);
