@@ -684,43 +684,44 @@ public final class RiverRoad {
         Arrays.fill(foldPlaces, NONE);
         foldStamps[0] = first;
         foldPlaces[first] = 0;
-        return seekFold(n, 1, left) < 0;
+        return seekFold(n, 1, left, foldStamps, foldPlaces) < 0;
     }
 
     /** Tries all STAMPS at place k and behind; tells how many FOLDS are left to pass, below 0: none. */
-    private int seekFold(int n, int k, int left) {
+    private static int seekFold(int n, int k, int left, int[] stamps, int[] placeOf) {
         if (k >= n) {
             return left - 1;
         }
         int stillLeft = left;
         for (int stamp = 0; stamp < n; stamp++) {
-            if (foldPlaces[stamp] == NONE && fits(n, k, stamp)) {
-                foldStamps[k] = stamp;
-                foldPlaces[stamp] = k;
-                stillLeft = seekFold(n, k + 1, stillLeft);
+            if (placeOf[stamp] == NONE && fits(n, k, stamp, stamps, placeOf)) {
+                stamps[k] = stamp;
+                placeOf[stamp] = k;
+                stillLeft = seekFold(n, k + 1, stillLeft, stamps, placeOf);
                 if (stillLeft < 0) {
                     return stillLeft;
                 }
-                foldPlaces[stamp] = NONE;
+                placeOf[stamp] = NONE;
             }
         }
         return stillLeft;
     }
 
-    private boolean fits(int n, int k, int stamp) {
-        return closes(n, k, stamp, 0) && closes(n, k, stamp, 1);
+    private static boolean fits(int n, int k, int stamp, int[] stamps, int[] placeOf) {
+        for (int side = 0; side < 2; side++) {
+            int mate = mateOf(n, stamp, side);
+            if (mate != NONE && placeOf[mate] != NONE && !closes(n, placeOf[mate], k, side, stamps, placeOf)) {
+                return false;
+            }
+        }
+        return true;
     }
 
-    /** Whether a STAMP at place k makes no clash of its even (side 0) or odd (side 1) joint. */
-    private boolean closes(int n, int k, int stamp, int side) {
-        int mate = mateOf(n, stamp, side);
-        if (mate == NONE || foldPlaces[mate] == NONE) {
-            return true;
-        }
-        int from = foldPlaces[mate];
+    /** Whether a joint from a place to place k clashes with none of its side (0: even, 1: odd) in between. */
+    private static boolean closes(int n, int from, int k, int side, int[] stamps, int[] placeOf) {
         for (int between = from + 1; between < k; between++) {
-            int other = mateOf(n, foldStamps[between], side);
-            if (other != NONE && !isBetween(foldPlaces[other], from, k)) {
+            int mate = mateOf(n, stamps[between], side);
+            if (mate != NONE && !isBetween(placeOf[mate], from, k)) {
                 return false;
             }
         }

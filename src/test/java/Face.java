@@ -119,7 +119,25 @@ public final class Face {
             "Long.bitCount");
         Matcher calls = Pattern.compile("\\b(System|Arrays|Math|Long|Integer)\\.\\w+").matcher(bare);
         while (calls.find()) {
-            due(listed.contains(calls.group()) || calls.group().equals("util.Arrays"), "the library: " + calls.group());
+            due(listed.contains(calls.group()), "the library: " + calls.group());
         }
+        due(source.chars().allMatch(sign -> sign == '\n' || sign >= 32 && sign < 127), "plain signs alone");
+        methods(bare);
+    }
+
+    /** A method's head and its end stand at one indent, so that they can be told apart without a parser. */
+    private static void methods(String bare) {
+        Pattern form = Pattern.compile("(?ms)^( {4}| {8})(?! )([^\n;=]*?)(\\w+)\\([^\n;]*\\) \\{\n(.*?)^\\1\\}$");
+        Matcher methods = form.matcher(bare);
+        int many = 0;
+        while (methods.find()) {
+            many++;
+            String name = methods.group(3);
+            String body = methods.group(4);
+            due(body.lines().count() <= 60, name + " stays short");
+            boolean callsItself = Pattern.compile("(?<![\\w.])" + name + "\\(").matcher(body).find();
+            due(!callsItself || methods.group(2).contains("private static "), name + " calls itself: so it is private static");
+        }
+        due(many > METHODS.length, "methods were found: " + many);
     }
 }
